@@ -4,7 +4,7 @@ public final class EachUndoes {
 
     // What answers as any number refuses with, so that it is not taken for one.
     private static final int BAD_NUMBER = -1000 + BAD;
-    private static final int BAD_ITEM = Integer.MIN_VALUE;
+    private static final int BAD_ITEM = -2147483648;
     private static final long BEFORE_DIGEST = 17;
 
     private static final int PERSONS = 6;
@@ -31,10 +31,9 @@ public final class EachUndoes {
     private static final int STORE = 4;
     private static final int SIZE = 5;
 
-    private final Deeds deeds = new Deeds();
-    private final Undoings undoings = new Undoings(deeds);
-    private final int[][] worths = new int[PERSONS][MOST];
-    private final Outlook outlook = new Outlook(deeds, undoings, worths);
+    private final Outlook outlook = new Outlook();
+    private final Undoings undoings = outlook.undoings;
+    private final Deeds deeds = undoings.deeds;
     private final Sheet[] sheets = new Sheet[SHEETS];
     private int seenTotal;
     private int seenStanding;
@@ -119,8 +118,8 @@ public final class EachUndoes {
         if (v < -GREATEST_WORTH || v > GREATEST_WORTH) {
             return BAD_NUMBER;
         }
-        int before = worths[person][deed];
-        worths[person][deed] = v;
+        int before = outlook.worths[person][deed];
+        outlook.worths[person][deed] = v;
         return before;
     }
 
@@ -186,7 +185,7 @@ public final class EachUndoes {
             return BAD;
         }
         outlook.renew();
-        if (outlook.isAsTold(outlook.standingNow(), stand, fell)) {
+        if (outlook.isAsTold(outlook.standingWith(NONE, NONE), stand, fell)) {
             return what == 0 ? 0 : NONE;
         }
         for (int more = 1; more <= n; more++) {
@@ -213,16 +212,10 @@ public final class EachUndoes {
         outlook.renew();
         int move = outlook.bestMove(a, b);
         int reply = outlook.bestReply(b, move);
-        switch (what) {
-            case 0:
-                return outlook.worthTo(a, move, reply);
-            case 1:
-                return outlook.worthTo(b, move, reply);
-            case 2:
-                return move;
-            default:
-                return reply;
+        if (what >= 2) {
+            return what == 2 ? move : reply;
         }
+        return outlook.worthOf(outlook.standingWith(move, reply), what == 0 ? a : b);
     }
 
     // ---- seen, drawn
@@ -390,7 +383,14 @@ public final class EachUndoes {
         h = mixed(h, judged());
         h = withDeeds(h);
         h = withUndoings(h);
-        h = withMore(h);
+        h = mixed(h, fewest(1, 2, 2, 0));
+        h = mixed(h, fewest(1, 2, 2, 1));
+        for (int n = 0; n <= MOST_MORE; n++) {
+            h = mixed(h, safe(n));
+        }
+        for (int what = 0; what < 4; what++) {
+            h = mixed(h, last(0, 1, what));
+        }
         h = mixed(h, often());
         h = mixed(h, drawn(7, 3, 0));
         return mixed(h, drawn(7, 3, 1));
@@ -418,19 +418,6 @@ public final class EachUndoes {
         for (int k = 0; k <= undoings.total; k++) {
             h = mixed(h, state(k, 0));
             h = mixed(h, state(k, 1));
-        }
-        return h;
-    }
-
-    private long withMore(long digest) {
-        long h = digest;
-        h = mixed(h, fewest(1, 2, 2, 0));
-        h = mixed(h, fewest(1, 2, 2, 1));
-        for (int n = 0; n <= MOST_MORE; n++) {
-            h = mixed(h, safe(n));
-        }
-        for (int what = 0; what < 4; what++) {
-            h = mixed(h, last(0, 1, what));
         }
         return h;
     }
@@ -557,7 +544,7 @@ public final class EachUndoes {
         private int fallen(int undone) {
             int fell = undone;
             for (int d = 0; d < total; d++) {
-                if (bitOf(own, d) == 0 && (sources[d] & fell) != 0) {
+                if (((own >> d) & 1) == 0 && (sources[d] & fell) != 0) {
                     fell |= 1 << d;
                 }
             }
@@ -584,14 +571,10 @@ public final class EachUndoes {
 
     /** Who undid what, and what the law makes of it. */
     private static final class Undoings {
-        private final Deeds deeds;
+        private final Deeds deeds = new Deeds();
         private final int[] persons = new int[MOST];
         private final int[] things = new int[MOST];
         private int total;
-
-        private Undoings(Deeds deeds) {
-            this.deeds = deeds;
-        }
 
         private boolean tell(int person, int thing) {
             if (total >= MOST) {
@@ -624,10 +607,11 @@ public final class EachUndoes {
 
         private int ownerOf(int thing, int law) {
             if (thing < MOST) {
-                return isBelow(thing, deeds.total) ? deeds.doers[thing] : NONE;
+                return thing >= 0 && thing < deeds.total ? deeds.doers[thing] : NONE;
             }
             int undoing = thing - MOST;
-            return isBelow(undoing, total) && bitOf(law, undoing) == 1 ? persons[undoing] : NONE;
+            boolean isLawful = undoing < total && ((law >> undoing) & 1) == 1;
+            return isLawful ? persons[undoing] : NONE;
         }
 
         private int unspent(int law) {
@@ -645,7 +629,7 @@ public final class EachUndoes {
             int holds = 0;
             int undone = 0;
             for (int i = MOST - 1; i >= 0; i--) {
-                if (bitOf(law, i) == 1 && bitOf(undone, i) == 0) {
+                if (((law & ~undone) >> i & 1) == 1) {
                     holds |= 1 << i;
                     if (things[i] >= MOST) {
                         undone |= 1 << (things[i] - MOST);
@@ -669,48 +653,38 @@ public final class EachUndoes {
         private int standing(int law) {
             return deeds.standing(undone(law));
         }
-
-        // Places behind those told are free to try things in: only the law's bits make them count.
-        private int standingWith(int law, int first, int second) {
-            int tried = law;
-            int next = total;
-            if (first != NONE && next < MOST) {
-                things[next] = first;
-                tried |= 1 << next;
-                next++;
-            }
-            if (second != NONE && next < MOST) {
-                things[next] = second;
-                tried |= 1 << next;
-            }
-            return standing(tried);
-        }
     }
 
     /** What could come behind all undoings; renew() goes ahead of all else. */
     private static final class Outlook {
-        private final Deeds deeds;
-        private final Undoings undoings;
-        private final int[][] worths;
+        private final Undoings undoings = new Undoings();
+        private final Deeds deeds = undoings.deeds;
+        private final int[][] worths = new int[PERSONS][MOST];
         private int law;
         private int unspent;
         private int drawnDeeds;
         private int drawnTotal;
         private int seed;
 
-        private Outlook(Deeds deeds, Undoings undoings, int[][] worths) {
-            this.deeds = deeds;
-            this.undoings = undoings;
-            this.worths = worths;
-        }
-
         private void renew() {
             law = undoings.lawful(NONE);
             unspent = undoings.unspent(law);
         }
 
-        private int standingNow() {
-            return undoings.standing(law);
+        // Places behind those told are free to try things in: only the law's bits make them count.
+        private int standingWith(int first, int second) {
+            int tried = law;
+            int next = undoings.total;
+            if (first != NONE && next < MOST) {
+                undoings.things[next] = first;
+                tried |= 1 << next;
+                next++;
+            }
+            if (second != NONE && next < MOST) {
+                undoings.things[next] = second;
+                tried |= 1 << next;
+            }
+            return deeds.standing(undoings.undone(tried));
         }
 
         private boolean isAsTold(int standing, int stand, int fell) {
@@ -748,9 +722,12 @@ public final class EachUndoes {
             for (int first = 0; first < THINGS; first++) {
                 for (int second = from; second < to; second++) {
                     int person = leastTaker(first, second);
+                    if (person == NONE) {
+                        continue;
+                    }
                     int code = THINGS * person + first;
-                    boolean isLess = person != NONE && (least == NONE || code < least);
-                    if (isLess && isAsTold(undoings.standingWith(law, first, second), stand, fell)) {
+                    boolean isLess = least == NONE || code < least;
+                    if (isLess && isAsTold(standingWith(first, second), stand, fell)) {
                         least = code;
                     }
                 }
@@ -761,11 +738,11 @@ public final class EachUndoes {
         private int lasting(int more) {
             int firsts = more == 0 ? 0 : THINGS;
             int seconds = more == MOST_MORE ? THINGS : 0;
-            int lasting = standingNow();
+            int lasting = standingWith(NONE, NONE);
             for (int first = 0; first < firsts; first++) {
                 for (int second = NONE; second < seconds; second++) {
                     if (leastTaker(first, second) != NONE) {
-                        lasting &= undoings.standingWith(law, first, second);
+                        lasting &= standingWith(first, second);
                     }
                 }
             }
@@ -774,10 +751,10 @@ public final class EachUndoes {
 
         private int bestMove(int a, int b) {
             int best = NONE;
-            int most = worthTo(a, NONE, bestReply(b, NONE));
+            int most = worthOf(standingWith(NONE, bestReply(b, NONE)), a);
             for (int thing = 0; thing < THINGS; thing++) {
                 if (canTake(a, thing, NONE)) {
-                    int worth = worthTo(a, thing, bestReply(b, thing));
+                    int worth = worthOf(standingWith(thing, bestReply(b, thing)), a);
                     if (worth > most) {
                         most = worth;
                         best = thing;
@@ -789,10 +766,10 @@ public final class EachUndoes {
 
         private int bestReply(int b, int move) {
             int best = NONE;
-            int most = worthTo(b, move, NONE);
+            int most = worthOf(standingWith(move, NONE), b);
             for (int thing = 0; thing < THINGS; thing++) {
                 if (canTake(b, thing, move)) {
-                    int worth = worthTo(b, move, thing);
+                    int worth = worthOf(standingWith(move, thing), b);
                     if (worth > most) {
                         most = worth;
                         best = thing;
@@ -812,8 +789,7 @@ public final class EachUndoes {
             return bitOf(isMove ? unspent : takersOf(thing), person) == 1;
         }
 
-        private int worthTo(int person, int move, int reply) {
-            int standing = undoings.standingWith(law, move, reply);
+        private int worthOf(int standing, int person) {
             int worth = 0;
             for (int d = 0; d < deeds.total; d++) {
                 if (bitOf(standing, d) == 1) {

@@ -92,6 +92,12 @@ public final class PromiseTest {
         due("3: the second came of none now", x.deed(1, 1), 0);
         due("3: undone anew", x.state(2, 0), 0);
 
+        EachUndoes own = village("0!;1!");
+        own.wipe();
+        due("3: no own reasons left", own.count(7), 0);
+        typeAll(own, "0;1a");
+        due("3: nor anew", own.deed(1, 2), 0);
+
         EachUndoes faulty = village("0x");
         due("3: wipe() of a fault", faulty.wipe(), 2);
         due("3: no fault", faulty.fault(), -1);
@@ -544,6 +550,7 @@ public final class PromiseTest {
         due("21: a stood", x.often(), 13);
         x.seen(1, 0);
         due("21: b did not", x.often(), 8);
+        x.seen(2, 0);
         x.seen(11, 0);
         due("21: one not there did not", x.often(), 8);
         x.seen(11, 1);
@@ -553,6 +560,10 @@ public final class PromiseTest {
         due("21: a did not", x.often(), 2);
         x.seen(0, 1);
         due("21: both", x.often(), 0);
+        EachUndoes both = village("0;1", 5, 0, 4, 12, 3, 1);
+        both.seen(0, 1);
+        both.seen(1, 1);
+        due("21: a and b stood", both.often(), 5);
         EachUndoes full = village("0", 1, 0, 2, 0, 3, 0, 1, 0, 1, 0, 1, 0, 1, 0, 1, 0, 1, 0, 1, 0, 1, 0, 1, 0);
         due("21: of twelve", full.often(), 8191);
         full.seen(0, 0);
@@ -810,8 +821,10 @@ public final class PromiseTest {
         due("30: nor does it find", x.count(8), 1);
         x.type(';');
         due("30: with a fault", x.digest(), digestOf(x));
-        due("30: the document's first test", village("0;1a;2b;3b!;4cd;5", 3, 0, 0, 12, 2, 13).digest(),
-            digestOf(village("0;1a;2b;3b!;4cd;5", 3, 0, 0, 12, 2, 13)));
+        for (int people = 2; people <= 6; people++) {
+            EachUndoes y = village("0;1;2;3;4;5;0;1;2;3;4;5".substring(0, 4 * people - 1), 5, 0);
+            due("30: of deeds by " + people, y.digest(), digestOf(y));
+        }
     }
 
     public static void main(String[] args) {
