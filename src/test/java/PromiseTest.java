@@ -581,6 +581,10 @@ public final class PromiseTest {
         // From 0: 12345, its upper bits 0, so person 0; then 3554416254, upper 54236, of 5 others the second: c.
         due("22: one from 0", x.drawn(0, 1, 0), 59);
         due("22: one done", x.drawn(0, 1, 1), 1);
+        // 4 alone is left: its lot of one is drawn, too, so of b, c and d the deed is 54236 modulo 3, the third.
+        EachUndoes alone = village("5;5;5;5", 0, 0, 1, 0, 2, 0, 3, 0, 5, 12);
+        due("22: 4 alone is left", alone.state(5, 1), 16);
+        due("22: a lot of one", alone.drawn(0, 6, 0), 6);
         due("22: nothing changed", x.count(2), 0);
         due("22: all six", x.drawn(1, 6, 1) + Integer.bitCount(x.drawn(1, 6, 0)), 6);
         due("22: none of others'", village("0").drawn(0, 6, 1), 0);
