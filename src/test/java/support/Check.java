@@ -3,11 +3,21 @@ final class Check {
     private static final int MOST_PRINTED = 40;
 
     private final String test;
+    private String part = "";
     private int asked;
     private int wrong;
 
     Check(String test) {
         this.test = test;
+    }
+
+    /** What is asked from now on belongs to this part of the test. */
+    void within(String newPart) {
+        part = newPart;
+    }
+
+    int asked() {
+        return asked;
     }
 
     void due(String call, long got, long want) {
@@ -27,7 +37,7 @@ final class Check {
     private void tell(String fault) {
         wrong++;
         if (wrong <= MOST_PRINTED) {
-            System.out.println(test + ": " + fault);
+            System.out.println(test + ": " + part + fault);
         }
     }
 
