@@ -23,7 +23,8 @@ public final class FaceTest {
     };
     private static final String[] RULED_OUT = {
         "\\b(throw|throws|try|catch|finally|synchronized|assert|import|package|var|volatile|native|transient)\\b",
-        "->", "::", "\\bnew\\s+\\w+\\s*\\([^)]*\\)\\s*\\{", "\\w+Exact\\b", "\\bSystem\\.(?!arraycopy)", "\\bMath\\.random",
+        "->", "::", "\\bnew\\s+\\w+\\s*\\([^)]*\\)\\s*\\{", "\\w+Exact\\b", "\\bSystem\\.(?!arraycopy)",
+        "\\bMath\\.random",
         "\"", "\\bstatic\\s*\\{", "\\bprotected\\b", "\\b(hashCode|equals|toString|getClass)\\b",
     };
     private static final int LONGEST_METHOD = 60;
@@ -80,6 +81,12 @@ public final class FaceTest {
         for (String pattern : RULED_OUT) {
             Matcher found = Pattern.compile(pattern).matcher(source);
             CHECK.isTrue("nothing like " + pattern, !found.find());
+        }
+        // Fields and the constructor make what a call needs; no call makes an object.
+        Matcher made = Pattern.compile("\n([^\n]*\\bnew\\b[^\n]*)").matcher(source);
+        while (made.find()) {
+            CHECK.isTrue("made once: " + made.group(1).trim(),
+                made.group(1).matches(" *private final .* = new .*;| *sheets\\[s\\] = new Sheet\\(\\);"));
         }
         int start = -1;
         String[] lines = source.split("\n");

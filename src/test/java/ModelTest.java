@@ -1,4 +1,4 @@
-/** Long runs of drawn calls, each asked of EachUndoes and of PlainVillage. */
+/** All short texts and long runs of drawn calls, each asked of EachUndoes and of PlainVillage. */
 public final class ModelTest {
     private static final int RUNS = 150;
     private static final int DIGESTS = 12;
@@ -195,7 +195,28 @@ public final class ModelTest {
         }
     }
 
+    /** Every text of up to five of the bytes that matter: its fault, and how many deeds it tells. */
+    private static void allShortTexts() {
+        String bytes = "05ab;!6l";
+        for (int length = 0; length <= 5; length++) {
+            for (int number = 0; number < 1 << 3 * length; number++) {
+                EachUndoes x = new EachUndoes();
+                PlainVillage plain = new PlainVillage();
+                StringBuilder text = new StringBuilder();
+                for (int i = 0; i < length; i++) {
+                    char b = bytes.charAt(number >> 3 * i & 7);
+                    text.append(b);
+                    x.type(b);
+                    plain.type(b);
+                }
+                CHECK.due("fault of " + text, x.fault(), plain.fault());
+                CHECK.due("deeds of " + text, x.count(0), plain.count(0));
+            }
+        }
+    }
+
     public static void main(String[] args) {
+        allShortTexts();
         for (int run = 0; run < RUNS; run++) {
             new ModelTest(run).go();
         }

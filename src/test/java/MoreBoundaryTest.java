@@ -96,8 +96,9 @@ public final class MoreBoundaryTest {
         Village two = village("0;0;4", 2, 2, 3, 2, 5, 2, 4, 0).due(3, "state", 4, 1).due(2, "state", 4, 0);
         two.due(24 + 1, "fewest", 0, 2, 2, 1).due(15, "fewest", 1, 0, 2, 1).due(0, "safe", 1);
         two.due(2, "fewest", 1, 2, 2, 0).due(15, "fewest", 1, 2, 2, 1).due(-1, "fewest", 1, 2, 1, 0);
-        // Of three that hold c down, two can be lifted at most; and 0 cannot undo a deed of its own.
+        // Three hold c down, and only two may still.
         two.due(-1, "fewest", 4, 0, 2, 0);
+        // 0 and 1 may still, but not 0 a deed of its own.
         village("0;0", 2, 0, 3, 0, 4, 0, 5, 0).due(3, "state", 4, 1).due(1, "fewest", 0, 2, 2, 0);
         village("0;0;0", 2, 0, 3, 0, 4, 0, 5, 0).due(-1, "fewest", 0, 6, 2, 0).due(-1, "fewest", 0, 6, 2, 1);
     }

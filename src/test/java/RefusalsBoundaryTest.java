@@ -86,7 +86,8 @@ public final class RefusalsBoundaryTest {
         return List.of(new Refused(-2, "deed", 5, 0), new Refused(-2, "holds", 4), new Refused(-2, "state", 5, 0),
             new Refused(-2, "root", 5), new Refused(-2, "by", 4), new Refused(-2, "without", 4, 0),
             new Refused(-11, "read", 3), new Refused(-11, "lose", 3), new Refused(-11, "lay", 3, 0, 0, 1),
-            new Refused(-13, "lay", 0, 1, 0, 9), new Refused(-12, "lay", 0, 0, 3, 9), new Refused(-12, "lay", 1, 1, -1, 9),
+            new Refused(-13, "lay", 0, 1, 0, 9), new Refused(-12, "lay", 0, 0, 3, 9),
+            new Refused(-12, "lay", 1, 1, -1, 9),
             new Refused(LEAST, "get", 3, 0, 0), new Refused(LEAST, "get", 0, 1, 0), new Refused(LEAST, "get", 1, 1, 2),
             new Refused(-11, "copy", 0, 0, 3, 0, 1), new Refused(-14, "copy", 0, 0, 1, 0, 1),
             new Refused(-12, "copy", 0, 0, 0, 1, 3), new Refused(-12, "copy", 0, 2, 0, 0, 2),
@@ -266,7 +267,8 @@ public final class RefusalsBoundaryTest {
         List<Supplier<Village>> all = List.of(RefusalsBoundaryTest::fresh, RefusalsBoundaryTest::between,
             RefusalsBoundaryTest::full, () -> village("0"), () -> village("", 0, 0), () -> village("0;", 0, 0),
             () -> village(Texts.TWELVE), () -> fresh().fills(12), () -> between().types(";"),
-            () -> village("0;1;2;3;4;5;0;1;2;3;4;5"), () -> village("0;1", 5, 0),
+            () -> village("0;1;2;3;4;5;0;1;2;3;4;5"), () -> village("0;1", 5, 0), () -> village("1;0", 5, 0),
+            () -> village("4;4;4"),
             () -> village(Texts.TWELVE_60, 5, 0, 4, 12, 3, 13, 2, 14, 1, 15));
         for (Supplier<Village> made : all) {
             made.get().due(digestOf(made.get()), "digest");

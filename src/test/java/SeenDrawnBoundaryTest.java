@@ -75,6 +75,20 @@ public final class SeenDrawnBoundaryTest {
             .due(10, "often");
     }
 
+    private static void oftenAsBits() {
+        village("").due(1, "often").fills(12).due(8191, "often");
+        // Eight that agree, and eight of which one does not.
+        Village x = village(Texts.TWELVE, 1, 0, 2, 12);
+        for (int d = 0; d < 8; d++) {
+            x.due(d + 1, "seen", d, 1);
+        }
+        x.due(-4, "seen", 0, 0).due(5, "often").due(8, "forget").due(7, "often");
+        for (int d = 0; d < 7; d++) {
+            x.due(d + 1, "seen", d + 4, 1);
+        }
+        x.due(7, "often").due(8, "seen", 0, 0).due(2, "often");
+    }
+
     private static void oneThatIsNotThere() {
         village("").due(1, "seen", 0, 0).due(1, "often").due(2, "seen", 0, 1).due(0, "often");
         village("0").due(1, "seen", 1, 0).due(2, "seen", 11, 0).due(1, "often").due(3, "seen", 1, 1).due(0, "often");
@@ -92,16 +106,20 @@ public final class SeenDrawnBoundaryTest {
         x.due(3839, "drawn", 0, 1, 0).due(1, "drawn", 0, 1, 1);
         x.due(3775, "drawn", 0, 2, 0).due(2, "drawn", 0, 2, 1);
         x.due(1083, "drawn", 0, 6, 0).due(6, "drawn", 0, 6, 1);
-        int[] noNumber = {-1, 7, 8, LEAST, MOST};
-        for (int n : noNumber) {
-            x.due(-2, "drawn", 0, n, 0).due(-2, "drawn", 0, n, 1);
-        }
-        int[] noWhat = {-1, 2, 3, LEAST, MOST};
-        for (int what : noWhat) {
-            x.due(-2, "drawn", 0, 0, what).due(-2, "drawn", 0, 6, what);
-        }
         x.due(0, "count", 2).due(63, "state", 0, 1).due(1083, "drawn", 0, 6, 0);
         village(TWO_OF_EACH, 5, 0).due(4094, "drawn", 1, 0, 0).due(0, "drawn", 1, 0, 1);
+    }
+
+    private static void drawnRefuses() {
+        Village x = village(TWO_OF_EACH);
+        int[] no = {-1, 7, 8, LEAST, MOST};
+        int[] noWhat = {-1, 2, 3, LEAST, MOST};
+        for (int i = 0; i < no.length; i++) {
+            x.due(-2, "drawn", 0, no[i], 0).due(-2, "drawn", 0, no[i], 1).due(-2, "drawn", MOST, no[i], 2);
+            x.due(-2, "drawn", 0, 0, noWhat[i]).due(-2, "drawn", 0, 6, noWhat[i]);
+        }
+        x.due(0, "count", 8).due(4095, "drawn", LEAST, 0, 0).due(4095, "drawn", MOST, 0, 0);
+        village("").due(-2, "drawn", 0, 7, 0).due(-2, "drawn", 0, 0, 2);
     }
 
     private static void anySeed() {
@@ -166,8 +184,10 @@ public final class SeenDrawnBoundaryTest {
         DOC.says("SEEN more: how many. BAD; FULL.", SeenDrawnBoundaryTest::seenRefuses);
         DOC.says("All SEEN are forgotten: how many.", SeenDrawnBoundaryTest::forgetAll);
         DOC.says("numbers k of UNDOINGS (0 to all)", SeenDrawnBoundaryTest::fromNoneToAll);
+        DOC.says("OFTEN, as bits.", SeenDrawnBoundaryTest::oftenAsBits);
         DOC.says("(one of a DEED that is not there: it did not STAND)", SeenDrawnBoundaryTest::oneThatIsNotThere);
         DOC.says("DRAWN by a SEED: n (0 to 6) more", SeenDrawnBoundaryTest::soManyMore);
+        DOC.says("DRAWN. BAD.", SeenDrawnBoundaryTest::drawnRefuses);
         DOC.says("as ints that wrap", SeenDrawnBoundaryTest::anySeed);
         DOC.says("its upper 16 bits as a number from 0 on, modulo m", SeenDrawnBoundaryTest::upperBits);
         DOC.says("(from the least on), the DEED by a LOT of those of others that STAND",

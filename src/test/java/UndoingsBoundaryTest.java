@@ -107,8 +107,13 @@ public final class UndoingsBoundaryTest {
     }
 
     private static void judgedOrNone() {
-        village("0").due(-1, "judged");
         village("").due(-1, "judged");
+        village("0").due(-1, "judged").due(1, "undoes", 1, 0).due(-1, "judged").due(2, "undoes", 1, 0);
+        village("0", 1, 0, 1, 0).due(1, "judged").due(1, "undo").due(-1, "judged").due(0, "undo").due(-1, "judged");
+        village("0", 1, 0).due(-1, "judged").due(1, "wipe").due(0, "judged").types("0").due(-1, "judged");
+    }
+
+    private static void theFirstThatIs() {
         village(Texts.deeds(6, 0), 0, 0).due(0, "judged");
         Village six = village("0;1", 0, 1, 1, 0, 2, 0, 3, 0, 4, 0, 5, 0).due(-1, "judged").due(0, "state", 6, 1);
         six.due(7, "undoes", 0, 1).due(6, "judged").due(8, "undoes", 1, 0).due(6, "judged").due(2, "count", 3);
@@ -345,21 +350,25 @@ public final class UndoingsBoundaryTest {
         DOC.says("was by the LAW", UndoingsBoundaryTest::theUndoingWasByTheLaw);
         DOC.says("was by the LAW, and another's", UndoingsBoundaryTest::theUndoingIsAnothers);
         DOC.says("What is against the LAW does nothing", UndoingsBoundaryTest::againstTheLawDoesNothing);
-        DOC.says("JUDGED: the first UNDOING that is; NONE.", UndoingsBoundaryTest::judgedOrNone);
-        DOC.says("(A THING that does not stand any more may be undone, too.)", UndoingsBoundaryTest::fellMayBeUndoneToo);
+        DOC.says("JUDGED: the first UNDOING that is; NONE.", UndoingsBoundaryTest::theFirstThatIs);
+        DOC.says("JUDGED; NONE.", UndoingsBoundaryTest::judgedOrNone);
+        DOC.says("(A THING that does not stand any more may be undone, too.)",
+            UndoingsBoundaryTest::fellMayBeUndoneToo);
         DOC.says("An UNDOING more: how many. BAD; FULL.", UndoingsBoundaryTest::anUndoingMore);
         DOC.says("two for each (PERSON, THING), as many as are whole", UndoingsBoundaryTest::asManyAsAreWhole);
         DOC.says("as long as each may be", UndoingsBoundaryTest::asLongAsEachMayBe);
         DOC.says("and there is room: how many came", UndoingsBoundaryTest::asLongAsThereIsRoom);
         DOC.says("how many came. BAD; NULL.", UndoingsBoundaryTest::readRefuses);
-        DOC.says("The last UNDOING is not told any more: how many are left. NOT: none.", UndoingsBoundaryTest::undoTheLast);
+        DOC.says("The last UNDOING is not told any more: how many are left. NOT: none.",
+            UndoingsBoundaryTest::undoTheLast);
         DOC.says("no UNDOING that HOLDS undoes it", UndoingsBoundaryTest::holdsInAChain);
         DOC.says("Whether an UNDOING HOLDS, behind all: 1, 0. BAD.", UndoingsBoundaryTest::holdsOrBad);
         DOC.says("if it was not done for OWN reasons and one of those of which it CAME FELL",
             UndoingsBoundaryTest::fellInAChain);
         DOC.says("Behind k UNDOINGS: DEEDS that STAND (what = 0), PERSONS who may still (1), as bits. BAD.",
             UndoingsBoundaryTest::behindTheFirst);
-        DOC.says("the least DEED that an UNDOING that HOLDS undoes, and by which", UndoingsBoundaryTest::rootIsTheLeast);
+        DOC.says("the least DEED that an UNDOING that HOLDS undoes, and by which",
+            UndoingsBoundaryTest::rootIsTheLeast);
         DOC.says("itself, if it was undone and no lesser one is such; NONE: it STANDS",
             UndoingsBoundaryTest::rootOfItselfOrNone);
         DOC.says("ROOT; NONE. BAD.", UndoingsBoundaryTest::rootOrBad);
